@@ -883,15 +883,17 @@ public final class LaterPrints {
 
         /** The cell to which a step would lead if nothing stood there; NONE where it leads nowhere. */
         int beside(int cell, int step) {
+            int column = cell % 10;
+            int row = cell / 10;
             switch (step) {
                 case EAST:
-                    return columnOf(cell) + 1 < wide ? cell + 1 : NONE;
+                    return column + 1 < wide ? cell + 1 : NONE;
                 case SOUTH:
-                    return rowOf(cell) + 1 < deep ? cell + 10 : NONE;
+                    return row + 1 < deep ? cell + 10 : NONE;
                 case WEST:
-                    return columnOf(cell) > 0 ? cell - 1 : NONE;
+                    return column > 0 ? cell - 1 : NONE;
                 case NORTH:
-                    return rowOf(cell) > 0 ? cell - 10 : NONE;
+                    return row > 0 ? cell - 10 : NONE;
                 default:
                     return NONE;
             }
@@ -956,8 +958,17 @@ public final class LaterPrints {
             return NONE;
         }
 
+        /** Calls nothing, as it stands at the end of the longest chain of calls. */
         boolean isFree(int cell, Room room) {
-            return !room.isWall(cell) && standing(cell) == NONE;
+            if ((room.walls >>> cell & 1L) != 0) {
+                return false;
+            }
+            for (int p = 0; p < many; p++) {
+                if (states[p] == THERE && cells[p] == cell) {
+                    return false;
+                }
+            }
+            return true;
         }
 
         boolean isHome(int cell) {
@@ -1476,33 +1487,36 @@ public final class LaterPrints {
             draft.empty();
             hasPrice = false;
             in.open(n);
+            boolean isGood = true;
             // Every part has more than one byte, so there are never as many as bytes.
-            for (int i = 0; i < MOST_TAPE && !in.isAtEnd(); i++) {
-                if (!readPart()) {
-                    return false;
+            for (int i = 0; i < MOST_TAPE && isGood && !in.isAtEnd(); i++) {
+                switch (in.word) {
+                    case Reader.SCENE:
+                        isGood = readSize();
+                        break;
+                    case Reader.PRICE:
+                        isGood = readPrice();
+                        break;
+                    case Reader.WALL:
+                        isGood = readWall();
+                        break;
+                    case Reader.PERSON:
+                        isGood = readPerson();
+                        break;
+                    case Reader.SIGHT:
+                        isGood = readSight();
+                        break;
+                    case Reader.BUYER:
+                        isGood = readBuyer();
+                        break;
+                    default:
+                        isGood = in.wrong(2);
                 }
             }
-            draft.folk.begin();
-            return true;
-        }
-
-        private boolean readPart() {
-            switch (in.word) {
-                case Reader.SCENE:
-                    return readSize();
-                case Reader.PRICE:
-                    return readPrice();
-                case Reader.WALL:
-                    return readWall();
-                case Reader.PERSON:
-                    return readPerson();
-                case Reader.SIGHT:
-                    return readSight();
-                case Reader.BUYER:
-                    return readBuyer();
-                default:
-                    return in.wrong(2);
+            if (isGood) {
+                draft.folk.begin();
             }
+            return isGood;
         }
 
         private boolean hasSize() {
@@ -1762,20 +1776,18 @@ public final class LaterPrints {
             draft.forget();
             depth = 0;
             in.open(n);
+            boolean isGood = true;
             // Every act and end has more than one byte, so there are never as many as bytes.
-            for (int i = 0; i < MOST_RUN_TEXT && !in.isAtEnd(); i++) {
-                if (!readEntry(world)) {
-                    return false;
-                }
+            for (int i = 0; i < MOST_RUN_TEXT && isGood && !in.isAtEnd(); i++) {
+                isGood = in.word == Reader.END ? readEnd() : mayBegin() && readAct(world);
+                isGood = isGood && in.passClose();
             }
             draft.isTold = true;
-            return depth == 0 || in.wrong(2);
+            return isGood && (depth == 0 || in.wrong(2));
         }
 
-        private boolean readEntry(World world) {
-            if (in.word == Reader.END) {
-                return readEnd();
-            }
+        /** Whether one more act may begin here, by its word. */
+        private boolean mayBegin() {
             boolean isDeeper = in.word == Reader.WHEN || in.word == Reader.LOOP;
             if (!isDeeper && in.word != Reader.STOP && !isWithin(in.word, Reader.BUY, Reader.ANY)) {
                 return in.wrong(2);
@@ -1783,11 +1795,7 @@ public final class LaterPrints {
             if (draft.acts >= Runs.MOST_ACTS) {
                 return in.wrong(6);
             }
-            if (isDeeper && depth >= MOST_DEPTH) {
-                return in.wrong(7);
-            }
-            draft.acts++;
-            return readAct(world) && in.passClose();
+            return !isDeeper || depth < MOST_DEPTH || in.wrong(7);
         }
 
         private boolean readEnd() {
@@ -1800,12 +1808,13 @@ public final class LaterPrints {
             draft.add(Runs.END, 0, 0);
             draft.mates[draft.entries - 1] = begin;
             in.advance();
-            return in.passClose();
+            return true;
         }
 
         /** Reads an act from its word on, up to the sign behind it. */
         private boolean readAct(World world) {
             int word = in.word;
+            draft.acts++;
             in.advance();
             switch (word) {
                 case Reader.BUY:
@@ -1836,12 +1845,8 @@ public final class LaterPrints {
             }
         }
 
-        private boolean isBuyerName(World world) {
-            return in.isNameOf(world.buyerNames, world.buyers);
-        }
-
         private boolean readBuy(World world) {
-            if (!isBuyerName(world)) {
+            if (!in.isNameOf(world.buyerNames, world.buyers)) {
                 return false;
             }
             int buyer = in.found;
@@ -1864,12 +1869,12 @@ public final class LaterPrints {
         }
 
         private boolean readGive(World world) {
-            if (!isBuyerName(world)) {
+            if (!in.isNameOf(world.buyerNames, world.buyers)) {
                 return false;
             }
             int giver = in.found;
             in.advance();
-            if (!isBuyerName(world)) {
+            if (!in.isNameOf(world.buyerNames, world.buyers)) {
                 return false;
             }
             draft.add(Runs.GIVE, giver, in.found);
@@ -1900,7 +1905,7 @@ public final class LaterPrints {
 
         private boolean readCoinTest(World world) {
             in.advance();
-            if (!isBuyerName(world)) {
+            if (!in.isNameOf(world.buyerNames, world.buyers)) {
                 return false;
             }
             int buyer = in.found;
@@ -1985,7 +1990,7 @@ public final class LaterPrints {
                     handOn(world, one, other);
                     return at + 1;
                 case Runs.ANY:
-                    buyByDraw(world);
+                    buyAll(world, drawBuyer(world.buyers), 1);
                     return at + 1;
                 case Runs.STOP:
                     return runs.entries;
@@ -2015,7 +2020,7 @@ public final class LaterPrints {
         }
 
         private void buyAll(World world, int buyer, int many) {
-            if (!world.canBuy(buyer, many)) {
+            if (buyer == NONE || !world.canBuy(buyer, many)) {
                 missed++;
                 return;
             }
@@ -2047,13 +2052,13 @@ public final class LaterPrints {
             world.keepFor(print, taker);
         }
 
-        private void buyByDraw(World world) {
-            if (world.buyers < 1) {
-                missed++;
-                return;
+        /** Without buyers there is none to be drawn, and no draw. */
+        private int drawBuyer(int buyers) {
+            if (buyers < 1) {
+                return NONE;
             }
             drawn = (drawn * 3049 + 11273) % 65536;
-            buyAll(world, drawn / 8 % world.buyers, 1);
+            return drawn / 8 % buyers;
         }
     }
 
