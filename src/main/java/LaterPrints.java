@@ -34,7 +34,7 @@ public final class LaterPrints {
     private long bottom = 1;
     private int faultKind = NONE;
     private int faultPlace = NONE;
-    private World world = new World();
+    private final World world = new World();
     private final World[] marks = new World[MOST_MARKS];
     private int marked = 0;
     private final SceneReader sceneReader = new SceneReader(reader);
