@@ -127,6 +127,15 @@ public final class AheadTest {
         C.good("gone", w, w.again(), 1);
         LaterPrints v = C.with("scene 6 by 1;person a at 0 0 goes east east west west;person b at 3 0 goes east rest west;");
         C.good("both", v, v.again(), 12);
+        // Back each 8th, each 5th, and the 0th and 4th of each 7 seconds: all of them first in the 200th.
+        String far = "scene 6 by 4;person a at 0 0 goes east east east east west west west west;"
+            + "person b at 0 1 goes east rest rest rest west;person c at 0 2 goes east rest rest west east rest west;";
+        LaterPrints u = C.with(far);
+        C.good("the 200th", u, u.again(), 200);
+        LaterPrints t = C.with(far + "person d at 0 3 goes east east west rest west rest rest rest;");
+        C.good("the 200th, with one more", t, t.again(), 200);
+        LaterPrints w3 = C.with(far + "person d at 0 3 goes east rest west;");
+        C.bad("not in 200", w3, w3.again(), 6);
     }
 
     private static void stays() {

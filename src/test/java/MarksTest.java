@@ -9,6 +9,7 @@ public final class MarksTest {
         allIsTakenBack();
         anotherSceneIsTakenBack();
         namesAreTakenBack();
+        theLastPrintKeptIsTakenBack();
         oneBehindTheOther();
         whatIsNotOfTheScene();
         C.end();
@@ -92,6 +93,20 @@ public final class MarksTest {
         x.undo();
         C.good("a", x, Check.runs(x, "buy a 1;when shows s;end;when there p;end;"), 3);
         C.bad("no z", x, Check.runs(x, "buy z 1;"), 9);
+    }
+
+    private static void theLastPrintKeptIsTakenBack() {
+        LaterPrints x = C.with("price 0 rises 0;buyer a;buyer b;");
+        x.buy(0, 99);
+        x.buy(0, 21);
+        x.mark();
+        x.give(120, 1);
+        x.give(1, 1);
+        C.good("given", x, x.prints(1), 2);
+        x.undo();
+        C.good("the first", x, x.owner(1), 0);
+        C.good("the last", x, x.owner(120), 0);
+        C.good("all", x, x.prints(0), 120);
     }
 
     private static void oneBehindTheOther() {
