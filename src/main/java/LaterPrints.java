@@ -348,10 +348,10 @@ public final class LaterPrints {
     }
 
     public int stepOf(int person, int k) {
-        if (!isPerson(person) || k < 0) {
+        if (!isPerson(person)) {
             return refuse(1);
         }
-        if (k >= world.folk.stepMany[person]) {
+        if (!isWithin(k, 0, world.folk.stepMany[person] - 1)) {
             return refuse(6);
         }
         return answer(world.folk.stepRows[person * MOST_STEPS + k]);

@@ -87,9 +87,25 @@ public final class ToldTest {
         C.bad("no such", x, x.stepOf(1, 4), 6);
         C.bad("no such", x, x.stepOf(0, 1), 6);
         C.bad("no such", x, x.stepOf(0, Integer.MAX_VALUE), 6);
-        C.bad("below 0", x, x.stepOf(0, -1), 1);
         C.bad("no such person", x, x.stepOf(3, 0), 1);
         C.bad("no such person, no such step", x, x.stepOf(-1, 99), 1);
+        C.bad("no such person, below 0", x, x.stepOf(3, -1), 1);
+        C.bad("no such person, below 0", x, x.stepOf(-1, -1), 1);
+        LaterPrints fresh = new LaterPrints();
+        C.bad("nobody in a new object", fresh, fresh.stepOf(0, -1), 1);
+        noStepBelowZero(x);
+        x.skip(3);
+        noStepBelowZero(x);
+    }
+
+    /** A step that is not there is 6 on either side, of whoever is there, not yet there or gone. */
+    private static void noStepBelowZero(LaterPrints x) {
+        int[] below = {-1, -2, -8, -9, -40, Integer.MIN_VALUE};
+        for (int p = 0; p < x.told(2); p++) {
+            for (int k : below) {
+                C.bad("step " + k + " of " + p, x, x.stepOf(p, k), 6);
+            }
+        }
     }
 
     private static void sights() {
