@@ -1364,7 +1364,7 @@ public final class LaterPrints {
 
         private void scanWord() {
             kind = IS_WORD;
-            while (isLetter(stop)) {
+            while (stop < size && isLetter(stop)) {
                 if (stop - start < MOST_LETTERS) {
                     name = name * 32 + (text[stop] - 'a' + 1);
                 }
@@ -1373,7 +1373,7 @@ public final class LaterPrints {
         }
 
         private void scanNumber() {
-            while (isDigit(stop)) {
+            while (stop < size && isDigit(stop)) {
                 if (stop - start < MOST_DIGITS) {
                     value = value * 10 + (text[stop] - '0');
                 }

@@ -126,26 +126,7 @@ public final class AnyCallsTest {
     }
 
     private static String all(LaterPrints x) {
-        StringBuilder s = new StringBuilder();
-        s.append(x.top()).append(' ').append(x.bottom()).append(' ').append(x.fault(0)).append(' ').append(x.fault(1));
-        for (int i = 0; i < 14; i++) {
-            s.append(' ').append(x.told(i));
-        }
-        for (int i = 0; i < 8; i++) {
-            for (int k = 0; k < 8; k++) {
-                s.append(' ').append(x.who(i, k)).append(x.wall(i, k)).append(x.person(i, k)).append(x.stepOf(i, k));
-                s.append(x.sight(i, k));
-            }
-            s.append(' ').append(x.coins(i)).append(' ').append(x.prints(i)).append(' ').append(x.lived(i));
-        }
-        for (int print = 1; print <= x.told(5); print++) {
-            s.append(' ').append(x.owner(print));
-        }
-        for (int tray = 0; tray < 4; tray++) {
-            for (int place = 0; place <= 60; place++) {
-                s.append(' ').append(x.read(tray, place)).append(' ').append(x.status());
-            }
-        }
+        StringBuilder s = new StringBuilder(Check.state(x));
         s.append(" tape ").append(x.feed(1, 2, 3, 4, 5)).append(" live ").append(x.live(17)).append(' ').append(x.lived(0));
         for (int i = 0; i < 4; i++) {
             s.append(" undo ").append(x.undo()).append(' ').append(x.told(5)).append(' ').append(x.told(12));

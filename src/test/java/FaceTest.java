@@ -24,6 +24,7 @@ public final class FaceTest {
         members();
         words();
         sizes();
+        loops();
         C.end();
     }
 
@@ -131,5 +132,16 @@ public final class FaceTest {
                 begun = 0;
             }
         }
+    }
+
+    /** The end of every loop can be seen from its own lines: something is compared with a bound. */
+    private static void loops() throws IOException {
+        Matcher loop = Pattern.compile("(?m)^.*\\b(while|for) \\(.*$").matcher(bare());
+        int found = 0;
+        while (loop.find()) {
+            found++;
+            C.due("a bound in: " + loop.group().trim(), loop.group().matches(".*[<>].*"), true);
+        }
+        C.due("loops", found > 40, true);
     }
 }
