@@ -1968,7 +1968,7 @@ public final class LaterPrints {
 
         private int behindEnd(Runs runs, int at) {
             int begin = runs.mates[at];
-            if (runs.kinds[begin] != Runs.LOOP) {
+            if (!isWithin(begin, 0, runs.entries - 1) || runs.kinds[begin] != Runs.LOOP) {
                 return at + 1;
             }
             roundsLeft[begin]--;

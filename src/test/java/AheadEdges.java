@@ -245,7 +245,8 @@ final class AheadEdges {
         c.bad("0 steps", x, x.steps(0, 1, 0), 1);
         c.bad("5 steps", x, x.steps(0, 1, 5), 1);
         d.says("PERIOD: the least p (1 to 4) by which it can.");
-        long[][] ways = {{0, 10, 20, 30, 40}, {20, 21, 20, 21, 20}, {20, 21, 22, 21, 22}, {20, 21, 22, 23, 22}, {20, 21, 31, 30, 20, 21, 31, 30}};
+        long[][] ways = {{0, 10, 20, 30, 40}, {20, 21, 20, 21, 20}, {20, 21, 22, 21, 22}, {20, 21, 22, 23, 22},
+            {20, 21, 31, 30, 20, 21, 31, 30}};
         int[] periods = {1, 2, 3, 4, 4};
         for (int i = 0; i < ways.length; i++) {
             fill(x, ways[i]);

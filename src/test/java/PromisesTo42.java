@@ -328,7 +328,8 @@ final class PromisesTo42 {
 
     private void often() {
         d.promises(38, "How many of the next n (1 to 200) PRINTS show a SIGHT (1).");
-        String at = "scene 2 by 1;person a at 0 0 leaves 200 goes rest rest east west;sight s of a at 0 0;sight t empty;sight u of a at 1 0;";
+        String at = "scene 2 by 1;person a at 0 0 leaves 200 goes rest rest east west;sight s of a at 0 0;sight t empty;"
+            + "sight u of a at 1 0;";
         LaterPrints x = c.with(at);
         c.good("1", x, x.often(0, 1), 1);
         c.good("2", x, x.often(0, 2), 2);
