@@ -5,12 +5,15 @@ import java.util.List;
 import java.util.Map;
 import java.util.Set;
 
-/** A second reading of scenes and RUNS, by recursion over a list of tokens, to compare the faults with. */
+/**
+ * A second reading of scenes and RUNS, by recursion over a list of tokens: their faults, and what they say, as a Model and
+ * as trees of acts.
+ */
 final class Grammar {
     private static final Set<String> RESERVED = Set.of("scene", "by", "price", "rises", "wall", "person", "at", "comes",
         "leaves", "goes", "sight", "of", "with", "empty", "buyer", "coins", "east", "south", "west", "north", "rest", "buy",
         "skip", "give", "any", "when", "shows", "there", "loop", "end", "stop");
-    private static final Set<String> STEPS = Set.of("east", "south", "west", "north", "rest");
+    private static final List<String> STEPS = List.of(Model.STEPS);
 
     private record Token(String text, int place) {
         boolean isWord() {
@@ -45,11 +48,34 @@ final class Grammar {
     private final Map<String, Character> names = new HashMap<>();
     private final List<Token> tokens = new ArrayList<>();
     private int at = 0;
-    private int wide = 0;
-    private int deep = 0;
     private boolean isPriced = false;
     private final Set<Integer> told = new HashSet<>();
     private int acts = 0;
+    private final Model model;
+    private List<Model.Act> tree = List.of();
+
+    /** To read a scene, and RUNS for it then. */
+    Grammar() {
+        model = new Model();
+    }
+
+    /** To read RUNS for a scene that is there. */
+    Grammar(Model scene) {
+        model = scene;
+        model.guys.forEach(g -> names.put(g.name, 'p'));
+        model.sights.forEach(s -> names.put(s.name(), 's'));
+        model.buyers.forEach(b -> names.put(b, 'b'));
+    }
+
+    /** The scene read latest; it is whole only if that had no fault. */
+    Model model() {
+        return model;
+    }
+
+    /** The RUNS read latest without a fault. */
+    List<Model.Act> tree() {
+        return tree;
+    }
 
     /** The fault of a scene and its place, 0 and -1 without one. */
     int[] scene(String text) {
@@ -69,7 +95,7 @@ final class Grammar {
         split(text);
         acts = 0;
         try {
-            acts(0);
+            tree = acts(0);
         } catch (Fault f) {
             return new int[] {f.kind, f.place};
         }
@@ -152,127 +178,143 @@ final class Grammar {
     }
 
     private int cell() {
-        int column = number(0, wide - 1);
-        return 10 * number(0, deep - 1) + column;
+        int column = number(0, model.wide - 1);
+        return 10 * number(0, model.deep - 1) + column;
     }
 
-    private void ownCell() {
+    private int ownCell() {
         int cell = cell();
         refuse(!told.add(cell), 5, tokens.get(at - 1));
+        return cell;
     }
 
     private void part() {
         Token head = need(Set.of("scene", "price", "wall", "person", "sight", "buyer").contains(now().text));
         String what = head.text;
-        refuse(wide == 0 && (what.equals("wall") || what.equals("person") || what.equals("sight")), 2, head);
-        refuse(what.equals("scene") && wide > 0 || what.equals("price") && isPriced, 5, head);
+        refuse(model.wide == 0 && (what.equals("wall") || what.equals("person") || what.equals("sight")), 2, head);
+        refuse(what.equals("scene") && model.wide > 0 || what.equals("price") && isPriced, 5, head);
         refuse(what.equals("person") && many('p') == 5 || what.equals("sight") && many('s') == 6
             || what.equals("buyer") && many('b') == 4, 6, head);
         switch (what) {
             case "scene" -> {
-                int first = number(1, 6);
+                model.wide = number(1, 6);
                 word("by");
-                deep = number(1, 5);
-                wide = first;
+                model.deep = number(1, 5);
             }
             case "price" -> {
-                number(0, 99);
+                model.first = number(0, 99);
                 word("rises");
-                number(0, 20);
+                model.rises = number(0, 20);
                 isPriced = true;
             }
-            case "wall" -> ownCell();
+            case "wall" -> model.walls.add(ownCell());
             case "person" -> person();
             case "sight" -> sight();
             default -> {
-                String name = newName();
-                if (perhaps("coins")) {
-                    number(0, 9999);
-                }
-                names.put(name, 'b');
+                model.buyers.add(newName());
+                model.coins.add(perhaps("coins") ? number(0, 9999) : 100);
+                names.put(model.buyers.get(model.buyers.size() - 1), 'b');
             }
         }
         word(";");
     }
 
     private void person() {
-        String name = newName();
+        Model.Guy g = new Model.Guy();
+        g.name = newName();
         word("at");
-        ownCell();
-        if (perhaps("comes")) {
-            number(0, 99);
-        }
-        if (perhaps("leaves")) {
-            number(1, 999);
-        }
+        int home = ownCell();
+        g.homeColumn = home % 10;
+        g.homeRow = home / 10;
+        g.column = g.homeColumn;
+        g.row = g.homeRow;
+        g.comes = perhaps("comes") ? number(0, 99) : 0;
+        g.leaves = perhaps("leaves") ? number(1, 999) : -1;
+        g.there = g.comes == 0;
         word("goes");
-        int steps = 0;
         do {
             Token t = need(STEPS.contains(now().text));
-            steps++;
-            refuse(steps > 8, 6, t);
+            refuse(g.steps.size() == 8, 6, t);
+            g.steps.add(STEPS.indexOf(t.text));
         } while (STEPS.contains(now().text));
-        names.put(name, 'p');
+        names.put(g.name, 'p');
+        model.guys.add(g);
     }
 
     private void sight() {
         String name = newName();
-        if (!perhaps("empty")) {
+        if (perhaps("empty")) {
+            model.sights.add(new Model.Sight(name, 2, -1, 0, 0, -1));
+        } else {
             word("of");
-            String one = nameOf('p');
+            int one = guy(nameOf('p'));
             if (perhaps("at")) {
-                cell();
+                int cell = cell();
+                model.sights.add(new Model.Sight(name, 0, one, cell % 10, cell / 10, -1));
             } else {
                 word("with");
-                String other = nameOf('p');
-                refuse(other.equals(one), 5, tokens.get(at - 1));
+                int other = guy(nameOf('p'));
+                refuse(other == one, 5, tokens.get(at - 1));
+                model.sights.add(new Model.Sight(name, 1, one, 0, 0, other));
             }
         }
         names.put(name, 's');
     }
 
-    private void acts(int depth) {
-        while (!now().text.isEmpty() && !(depth > 0 && now().text.equals("end"))) {
-            act(depth);
-        }
+    private int guy(String name) {
+        return model.guys.stream().map(g -> g.name).toList().indexOf(name);
     }
 
-    private void act(int depth) {
+    private int seen(String name) {
+        return model.sights.stream().map(Model.Sight::name).toList().indexOf(name);
+    }
+
+    private int buyer() {
+        return model.buyers.indexOf(nameOf('b'));
+    }
+
+    private List<Model.Act> acts(int depth) {
+        List<Model.Act> all = new ArrayList<>();
+        while (!now().text.isEmpty() && !(depth > 0 && now().text.equals("end"))) {
+            all.add(act(depth));
+        }
+        return all;
+    }
+
+    private Model.Act act(int depth) {
         Token head = need(Set.of("buy", "skip", "give", "any", "when", "loop", "stop").contains(now().text));
         refuse(acts == 30, 6, head);
         boolean isDeeper = head.text.equals("when") || head.text.equals("loop");
         refuse(isDeeper && depth == 3, 7, head);
         acts++;
-        switch (head.text) {
-            case "buy" -> {
-                nameOf('b');
-                number(1, 20);
-            }
-            case "skip" -> number(1, 20);
-            case "give" -> {
-                nameOf('b');
-                nameOf('b');
-            }
-            case "loop" -> number(1, 99);
+        Model.Act begun = switch (head.text) {
+            case "buy" -> new Model.Act("buy", buyer(), number(1, 20), "", List.of());
+            case "give" -> new Model.Act("give", buyer(), buyer(), "", List.of());
+            case "skip" -> new Model.Act("skip", number(1, 20), 0, "", List.of());
+            case "loop" -> new Model.Act("loop", number(1, 99), 0, "", List.of());
             case "when" -> test();
-            default -> { }
-        }
+            default -> new Model.Act(head.text, 0, 0, "", List.of());
+        };
         word(";");
-        if (isDeeper) {
-            acts(depth + 1);
-            word("end");
-            word(";");
+        if (!isDeeper) {
+            return begun;
         }
+        List<Model.Act> body = acts(depth + 1);
+        word("end");
+        word(";");
+        return new Model.Act(begun.word(), begun.one(), begun.two(), begun.compare(), body);
     }
 
-    private void test() {
+    private Model.Act test() {
         Token t = need(Set.of("shows", "there", "coins").contains(now().text));
-        if (t.text.equals("coins")) {
-            nameOf('b');
-            need(Set.of("<", ">", "=").contains(now().text));
-            number(0, 9999);
-        } else {
-            nameOf(t.text.equals("shows") ? 's' : 'p');
-        }
+        return switch (t.text) {
+            case "shows" -> new Model.Act("shows", seen(nameOf('s')), 0, "", List.of());
+            case "there" -> new Model.Act("there", guy(nameOf('p')), 0, "", List.of());
+            default -> {
+                int buyer = buyer();
+                String compare = need(Set.of("<", ">", "=").contains(now().text)).text;
+                yield new Model.Act("coins", buyer, number(0, 9999), compare, List.of());
+            }
+        };
     }
 }

@@ -1,4 +1,5 @@
 import java.util.ArrayList;
+import java.util.Arrays;
 import java.util.HashMap;
 import java.util.HashSet;
 import java.util.List;
@@ -56,6 +57,8 @@ final class Model {
     List<String> buyers = new ArrayList<>();
     List<Integer> coins = new ArrayList<>();
     Map<Integer, Integer> owners = new HashMap<>();
+    /** null where there are none. */
+    List<Act> runs;
 
     Model copy() {
         Model m = new Model();
@@ -72,6 +75,7 @@ final class Model {
         m.buyers = new ArrayList<>(buyers);
         m.coins = new ArrayList<>(coins);
         m.owners = new HashMap<>(owners);
+        m.runs = runs;
         return m;
     }
 
@@ -127,6 +131,16 @@ final class Model {
             m.goBy();
         }
         return m;
+    }
+
+    /** This second and the next n, one behind the other. */
+    List<Model> film(int n) {
+        List<Model> film = new ArrayList<>();
+        film.add(copy());
+        for (int k = 1; k <= n; k++) {
+            film.add(film.get(k - 1).in(1));
+        }
+        return film;
     }
 
     int place(int guy) {
@@ -192,6 +206,81 @@ final class Model {
             sum += c;
         }
         return sum;
+    }
+
+    /** Cost, how many and the set of COVER, found by trying all sets; null if none shows all. */
+    int[] bestCover(int want, int n) {
+        int[] shown = film(n).stream().mapToInt(Model::shown).toArray();
+        int[] best = null;
+        for (int set = 0; set < 1 << n; set++) {
+            int seen = 0;
+            int cost = 0;
+            for (int k = 1; k <= n; k++) {
+                if ((set & 1 << k - 1) != 0) {
+                    seen |= shown[k];
+                    cost += priceOf(second + k);
+                }
+            }
+            int[] now = {cost, Integer.bitCount(set), set};
+            if ((seen & want) == want && (best == null || Arrays.compare(now, best) < 0)) {
+                best = now;
+            }
+        }
+        return best;
+    }
+
+    // ---- somebody alone; a cell is 10 times its row and its column
+
+    int move(int cell, int step) {
+        int column = cell % 10 + COLUMNS[step];
+        int row = cell / 10 + ROWS[step];
+        return open(column, row) ? 10 * row + column : cell;
+    }
+
+    long ways(int cell, int to, int n) {
+        return ways(cell, to, n, new HashMap<>());
+    }
+
+    private long ways(int cell, int to, int n, Map<Integer, Long> known) {
+        if (n == 0) {
+            return cell == to ? 1 : 0;
+        }
+        // Without what is known already, twelve seconds would be 5 to the 12th ways to go one by one.
+        Long before = known.get(100 * n + cell);
+        if (before != null) {
+            return before;
+        }
+        long sum = 0;
+        for (int step = 0; step < 5; step++) {
+            sum += ways(move(cell, step), to, n - 1, known);
+        }
+        known.put(100 * n + cell, sum);
+        return sum;
+    }
+
+    /** All rows of p steps by which these cells, -1 where not known, can have been gone along, in their order. */
+    List<int[]> rowsAlong(int[] cells, int p) {
+        List<int[]> rows = new ArrayList<>();
+        addRows(cells, new int[p], 0, rows);
+        return rows;
+    }
+
+    private void addRows(int[] cells, int[] row, int k, List<int[]> rows) {
+        if (k < row.length) {
+            for (int step = 0; step < 5; step++) {
+                row[k] = step;
+                addRows(cells, row, k + 1, rows);
+            }
+            return;
+        }
+        int cell = cells[0];
+        for (int i = 1; i < cells.length; i++) {
+            cell = move(cell, row[(i - 1) % row.length]);
+            if (cells[i] >= 0 && cells[i] != cell) {
+                return;
+            }
+        }
+        rows.add(row.clone());
     }
 
     // ---- RUNS, as trees

@@ -180,19 +180,8 @@ public final class ModelTest {
         }
     }
 
-    private static List<Model> film(Model m, int n) {
-        List<Model> film = new ArrayList<>();
-        film.add(m.copy());
-        for (int k = 1; k <= n; k++) {
-            Model next = film.get(k - 1).copy();
-            next.goBy();
-            film.add(next);
-        }
-        return film;
-    }
-
     private static void ahead(LaterPrints x, Model m) {
-        List<Model> film = film(m, 200);
+        List<Model> film = m.film(200);
         for (int k = 0; k <= 200; k += k < 20 ? 1 : 36) {
             C.good("showsIn", x, x.showsIn(k), film.get(k).shown());
             C.good("costOf", x, x.costOf(k), m.costOf(k));
@@ -249,10 +238,10 @@ public final class ModelTest {
     }
 
     private static void bargains(LaterPrints x, Model m, Random r) {
-        List<Model> film = film(m, 200);
+        List<Model> film = m.film(200);
         int n = 1 + r.nextInt(8);
         int want = r.nextInt(1 << m.sights.size());
-        int[] best = cover(m, film, want, n);
+        int[] best = m.bestCover(want, n);
         found("cover", x, x.cover(want, n), best == null ? -1 : best[0]);
         found("coverSet", x, x.coverSet(want, n), best == null ? -1 : best[2]);
         for (int who = 0; who < 2; who++) {
@@ -278,42 +267,6 @@ public final class ModelTest {
         }
     }
 
-    private static int[] cover(Model m, List<Model> film, int want, int n) {
-        int[] best = null;
-        for (int set = 0; set < 1 << n; set++) {
-            int seen = 0;
-            int cost = 0;
-            for (int k = 1; k <= n; k++) {
-                if ((set & 1 << k - 1) != 0) {
-                    seen |= film.get(k).shown();
-                    cost += m.priceOf(m.second + k);
-                }
-            }
-            int[] now = {cost, Integer.bitCount(set), set};
-            if ((seen & want) == want && (best == null || java.util.Arrays.compare(now, best) < 0)) {
-                best = now;
-            }
-        }
-        return best;
-    }
-
-    private static int move(Model m, int cell, int step) {
-        int column = cell % 10 + (step == 0 ? 1 : step == 2 ? -1 : 0);
-        int row = cell / 10 + (step == 1 ? 1 : step == 3 ? -1 : 0);
-        return m.open(column, row) ? 10 * row + column : cell;
-    }
-
-    private static long ways(Model m, int cell, int to, int n) {
-        if (n == 0) {
-            return cell == to ? 1 : 0;
-        }
-        long sum = 0;
-        for (int step = 0; step < 5; step++) {
-            sum += ways(m, move(m, cell, step), to, n - 1);
-        }
-        return sum;
-    }
-
     private static void alone(LaterPrints x, Model m, Random r) {
         int c = r.nextInt(m.wide);
         int w = r.nextInt(m.deep);
@@ -321,13 +274,13 @@ public final class ModelTest {
         int v = r.nextInt(m.deep);
         int n = r.nextInt(5);
         boolean open = m.open(c, w) && m.open(d, v);
-        C.due("between", x.between(c, w, d, v, n), open ? ways(m, 10 * w + c, 10 * v + d, n) : -1);
+        C.due("between", x.between(c, w, d, v, n), open ? m.ways(10 * w + c, 10 * v + d, n) : -1);
         C.due("between", x.status(), open ? 0 : 7);
         for (int step = 0; step < 5; step++) {
             int set = 0;
             for (int i = 0; i < m.wide * m.deep; i++) {
                 int cell = 10 * (i / m.wide) + i % m.wide;
-                set |= m.open(cell % 10, cell / 10) && move(m, cell, step) == 10 * w + c ? 1 << i : 0;
+                set |= m.open(cell % 10, cell / 10) && m.move(cell, step) == 10 * w + c ? 1 << i : 0;
             }
             C.due("origin", x.origin(c, w, step), m.open(c, w) ? set : -1);
         }
@@ -343,7 +296,7 @@ public final class ModelTest {
         int[] row = r.ints(p, 0, 5).toArray();
         cells[0] = start;
         for (int i = 1; i < n; i++) {
-            cells[i] = move(m, cells[i - 1], row[(i - 1) % p]);
+            cells[i] = m.move(cells[i - 1], row[(i - 1) % p]);
         }
         x.tray(1, r.nextInt(4), n);
         for (int i = 0; i < n; i++) {
@@ -352,8 +305,7 @@ public final class ModelTest {
         }
         int period = -1;
         for (int q = 4; q >= 1; q--) {
-            List<int[]> rows = new ArrayList<>();
-            rowsOf(m, cells, new int[q], 0, rows);
+            List<int[]> rows = m.rowsAlong(cells, q);
             C.good("steps", x, x.steps(1, n, q), rows.size());
             for (int k = 0; k < q; k++) {
                 found("stepsAt", x, x.stepsAt(1, n, q, k), rows.isEmpty() ? -1 : rows.get(0)[k]);
@@ -361,24 +313,6 @@ public final class ModelTest {
             period = rows.isEmpty() ? period : q;
         }
         found("period", x, x.period(1, n), period);
-    }
-
-    private static void rowsOf(Model m, int[] cells, int[] row, int k, List<int[]> rows) {
-        if (k < row.length) {
-            for (int step = 0; step < 5; step++) {
-                row[k] = step;
-                rowsOf(m, cells, row, k + 1, rows);
-            }
-            return;
-        }
-        int cell = cells[0];
-        for (int i = 1; i < cells.length; i++) {
-            cell = move(m, cell, row[(i - 1) % row.length]);
-            if (cells[i] >= 0 && cells[i] != cell) {
-                return;
-            }
-        }
-        rows.add(row.clone());
     }
 
     private static void live(LaterPrints x, Model m, Random r) {
