@@ -150,6 +150,29 @@ final class AheadEdges {
             + "goes west rest rest rest;sight s of a at 1 0;sight t of b at 3 0;");
         c.good("prints 1 and 2 for 20, print 4 alone for 60", z, z.cover(3, 12), 20);
         c.good("prints 1 and 2", z, z.coverSet(3, 12), 3);
+        fewestThenLeast();
+    }
+
+    /** s in prints 1 and 4, t in 2 and 4: the one print is a larger number than the two, and costs as much. */
+    private void fewestThenLeast() {
+        String scene = "scene 4 by 1;person a at 0 0 goes east west rest east;person b at 3 0 goes rest west east west;"
+            + "sight s of a at 1 0;sight t of b at 2 0;";
+        LaterPrints x = c.with("price 0 rises 0;" + scene);
+        c.good("s in the first and fourth", x, x.often(0, 4), 2);
+        c.good("t in the second and fourth", x, x.often(1, 4), 2);
+        c.good("two without the fourth", x, x.coverSet(3, 3), 1 + 2);
+        c.good("the fewest, though not the least", x, x.coverSet(3, 4), 8);
+        c.good("the fewest, though not the least", x, x.coverSet(3, 12), 8);
+        c.good("for nothing", x, x.cover(3, 12), 0);
+        LaterPrints y = c.with("price 2 rises 0;" + scene);
+        c.good("fewer are cheaper", y, y.coverSet(3, 12), 8);
+        // Print 1 for 1 and print 2 for 2 are as dear as print 3 alone, which shows both.
+        LaterPrints z = c.with("price 1 rises 1;" + scene.replace("east west rest east", "east west east")
+            .replace("rest west east west", "rest west rest"));
+        c.good("as dear", z, z.cover(3, 2), 3);
+        c.good("as dear", z, z.cover(3, 12), 3);
+        c.good("prints 1 and 2", z, z.coverSet(3, 2), 3);
+        c.good("print 3", z, z.coverSet(3, 12), 4);
     }
 
     private void shares() {

@@ -60,6 +60,7 @@ public final class WholeTest {
     }
 
     private void oneObject() throws Exception {
+        bargain();
         putScene();
         for (int i = 0; i < 400; i++) {
             switch (r.nextInt(60)) {
@@ -189,6 +190,27 @@ public final class WholeTest {
         int p = 1 + r.nextInt(4);
         both("steps", tray, 1 + r.nextInt(20), p);
         both("stepsAt", tray, 1 + r.nextInt(20), p, r.nextInt(p));
+    }
+
+    /** A lively scene whose prints cost nearly nothing: else several covers are hardly ever as cheap as each other. */
+    private void bargain() throws Exception {
+        both("runs", 0);
+        StringBuilder text = new StringBuilder("price " + r.nextInt(2) + " rises " + r.nextInt(2) + ";scene 2 by 2;");
+        for (String person : new String[] {"a at 0 0", "b at 1 1"}) {
+            text.append("person ").append(person).append(" goes");
+            for (int k = 2 + r.nextInt(6); k > 0; k--) {
+                text.append(' ').append(Model.STEPS[r.nextInt(5)]);
+            }
+            text.append(';');
+        }
+        for (String sight : new String[] {"s of a", "t of b", "u of a"}) {
+            text.append("sight ").append(sight).append(" at ").append(r.nextInt(2)).append(' ').append(r.nextInt(2)).append(';');
+        }
+        put("scene", text.append("sight v of a with b;").toString());
+        for (int set = 0; set < 16; set++) {
+            both("coverSet", set, 3 + r.nextInt(10));
+            both("cover", set, 3 + r.nextInt(10));
+        }
     }
 
     /** Every STATUS that the document tells of a call was met, so that the comparing was of something. */
