@@ -80,6 +80,8 @@ final class RunsEdges {
         c.runsFault(SCENE, "when coins a < |any;end;", 2);
         c.runsFault(SCENE, "when coins a < |;end;", 2);
         c.runsFault(SCENE, "when |any;end;", 2);
+        c.runsFault(SCENE, "when |;end;", 2);
+        c.runsFault(SCENE, "when|", 2);
         d.says("COMPARES: &lt; or &gt; or =");
         for (String compare : new String[] {"<", ">", "="}) {
             act("when coins a " + compare + " 5 ; end ;");

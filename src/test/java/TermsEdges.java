@@ -82,6 +82,26 @@ final class TermsEdges {
         Check.feed(z, full);
         c.good("none of them", z, z.scene(0), 0);
         c.good("no buyer", z, z.told(4), 0);
+        lastBytes();
+    }
+
+    /** A token that ends with the tape: behind it there is nothing that could be read, not even to compare it with a word. */
+    private void lastBytes() {
+        String words = "scene price wall person sight buyer leaves";
+        for (String word : words.split(" ")) {
+            for (int letters = 1; letters <= word.length(); letters++) {
+                String last = word.substring(0, letters);
+                boolean isWhole = letters == word.length() && !word.equals("leaves");
+                boolean isAhead = word.equals("wall") || word.equals("person") || word.equals("sight");
+                // What begins a part lacks what must stand behind it; anything else can't stand there itself.
+                String blanks = " ".repeat(900 - letters);
+                c.sceneFault(isWhole && !isAhead ? blanks + last + "|" : blanks + "|" + last, 2);
+            }
+        }
+        c.sceneFault(" ".repeat(896) + "|1234", 2);
+        c.sceneFault(" ".repeat(895) + "|12345", 1);
+        c.sceneFault(" ".repeat(899) + "|!", 1);
+        c.sceneFault(" ".repeat(899) + "|;", 2);
     }
 
     private void tokens() {
